@@ -4,7 +4,22 @@ final class P08CopyTest {
         copiesEverything();
         theCopyStandsAlone();
         takesOutWhatOldHasNot();
+        copiesFullTypes();
         Check.end();
+    }
+
+    private static void copiesFullTypes() {
+        CompatibilityJudge x = new CompatibilityJudge();
+        for (int type = 0; type < 12; type++) {
+            x.type(0, type, 0, 1, -1);
+            for (int key = 0; key < 8; key++) {
+                x.member(0, type, 1, key, 3);
+            }
+        }
+        Check.due(x.copy(), 12);
+        Check.due(x.count(3), 96);
+        Check.due(x.look(1, 11, 1, 7), 11);
+        Check.dueFindings(x);
     }
 
     private static CompatibilityJudge filled() {

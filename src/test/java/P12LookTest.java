@@ -8,6 +8,7 @@ final class P12LookTest {
         methodsFromAnInterface();
         numbersThatDoNotCount();
         constructorsAreTheOwnOnes();
+        upThroughAllTypes();
         refuses();
         Check.end();
     }
@@ -152,6 +153,27 @@ final class P12LookTest {
         Check.due(x.look(0, 2, 2, 7), 12);
         x.member(0, 2, 2, 7, 0);
         Check.due(x.look(0, 2, 2, 7), 2);
+    }
+
+    private static void upThroughAllTypes() {
+        CompatibilityJudge x = new CompatibilityJudge();
+        for (int type = 0; type < 12; type++) {
+            x.type(0, type, 0, 0, type - 1);
+            x.type(1, type, 1, 0, -1);
+            x.implement(1, type, type - 1);
+        }
+        x.member(0, 0, 0, 63, 0);
+        x.member(0, 0, 1, 511, 0);
+        x.member(1, 0, 0, 63, 15);
+        x.member(1, 0, 1, 511, 3);
+        for (int type = 0; type < 12; type++) {
+            Check.due(x.look(0, type, 0, 63), 0);
+            Check.due(x.look(0, type, 1, 511), 0);
+            Check.due(x.look(1, type, 0, 63), 0);
+            Check.due(x.look(1, type, 1, 511), 0);
+            Check.due(x.supertypes(0, type), (1 << type) - 1);
+            Check.due(x.supertypes(1, type), (1 << type) - 1);
+        }
     }
 
     private static void refuses() {

@@ -17,6 +17,7 @@ final class P13FindingsTest {
         abstractMethodAdded();
         suppressedOnesCountToo();
         standInOrder();
+        manyAtOnce();
         Check.end();
     }
 
@@ -327,5 +328,26 @@ final class P13FindingsTest {
         Check.dueFindings(x, "2 6 -1", "4 6 0", "4 6 3", "5 6 2", "6 6 0", "6 6 3", "7 6 1",
                 "7 6 3", "8 6 1", "8 6 3", "9 6 1", "10 6 0", "12 6 4", "13 6 0", "13 6 1",
                 "0 7 -1");
+    }
+
+    /** Every field breaks four rules and every type has lost all that it stood under. */
+    private static void manyAtOnce() {
+        CompatibilityJudge x = new CompatibilityJudge();
+        for (int type = 0; type < 12; type++) {
+            x.type(0, type, 0, 1, type - 1);
+            x.type(1, type, 0, 5, -1);
+            for (int place = 0; place < 8; place++) {
+                x.member(0, type, 0, place, 3);
+                x.constant(0, type, place, 1);
+                x.member(1, type, 0, place, 12);
+            }
+        }
+        Check.due(x.findings(), 12 + 66 + 12 * 8 * 4);
+        Check.due(x.finding(461, 0), 9);
+        Check.due(x.finding(461, 1), 11);
+        Check.due(x.finding(461, 2), 7);
+        Check.due(x.finding(462, 0), Check.REFUSED);
+        Check.due(x.byRule(4), 66);
+        Check.due(x.byRule(8), 96);
     }
 }

@@ -26,6 +26,11 @@ final class P17CountTest {
         x.remove(0, 4);
         x.copy();
         dueCounts(x, 0, 0, 0, 0, 1);
+        x.type(0, 0, 0, 1, -1);
+        x.type(0, 11, 0, 1, -1);
+        x.member(0, 0, 1, 1, 3);
+        x.member(0, 11, 1, 1, 3);
+        dueCounts(x, 2, 0, 2, 0, 1);
         Check.due(x.count(-1), Check.REFUSED);
         Check.due(x.count(5), Check.REFUSED);
         Check.due(x.count(Integer.MIN_VALUE), Check.REFUSED);
