@@ -80,12 +80,12 @@ public final class CompatibilityJudge {
                 || (parent != NO_TYPE && !isWithin(parent, TYPE_LIMIT))) {
             return REFUSED;
         }
-        Baseline place = baselines[baseline];
-        if (place.types[type].defined || parent >= type || !isTypeAllowed(kind, flags, parent)) {
+        Baseline side = baselines[baseline];
+        if (side.types[type].defined || parent >= type || !isTypeAllowed(kind, flags, parent)) {
             return REFUSED;
         }
-        place.types[type].define(kind, flags, parent);
-        place.settle();
+        side.types[type].define(kind, flags, parent);
+        side.settle();
         comparison.stale = true;
         return 1;
     }
@@ -94,14 +94,14 @@ public final class CompatibilityJudge {
         if (!isTypeOf(baseline, type) || !isWithin(other, TYPE_LIMIT) || other >= type) {
             return REFUSED;
         }
-        Baseline place = baselines[baseline];
-        Type target = place.types[type];
+        Baseline side = baselines[baseline];
+        Type target = side.types[type];
         if (!target.defined || target.interfaceCount >= INTERFACE_LIMIT
                 || target.names(other)) {
             return REFUSED;
         }
         target.addInterface(other);
-        place.settle();
+        side.settle();
         comparison.stale = true;
         return target.interfaceCount;
     }
