@@ -1,9 +1,10 @@
 import java.util.Random;
 
-/** Random runs of some 512 calls, the same ones each time, whose answers the model tells. */
+/** Random runs of 512 calls, the same ones each time, whose answers the model tells. */
 final class AgainstModelTest {
-    private static final int RUNS = 1500;
-    private static final int CALLS = 512;
+    private static final int RUNS = 2000;
+    /** The calls at the end of a run that are questions alone. */
+    private static final int LAST_QUESTIONS = 180;
     private static final int[] CLASS_FLAGS = {0, 1, 1, 1, 3, 5};
     private static final int[] FIELD_FLAGS = {0, 1, 2, 3, 3, 3, 6, 7, 10, 11};
     private static final int[] METHOD_FLAGS = {0, 1, 2, 3, 3, 3, 6, 7, 10, 11, 15, 18, 19, 19};
@@ -11,7 +12,7 @@ final class AgainstModelTest {
         Integer.MAX_VALUE};
 
     private final Random random;
-    private final CompatibilityJudge judge = new CompatibilityJudge();
+    private final Judge judge = new Judge();
     private final Model model = new Model();
     /** How often a run strays to numbers that are mostly wrong, in a hundred calls. */
     private final int wildness;
@@ -34,19 +35,19 @@ final class AgainstModelTest {
             if (seed % 2 == 0) {
                 run.fill();
             }
-            for (int call = seed % 2 == 0 ? CALLS / 3 : 0; call < CALLS; call++) {
+            while (run.judge.callsLeft() > LAST_QUESTIONS) {
                 run.anyCall();
             }
-            run.compareAll();
-            for (int i = 0; i < run.judge.findings(); i++) {
-                seen[run.judge.finding(i, 0)]++;
+            run.lastQuestions();
+            for (int rule = 0; rule < 14; rule++) {
+                seen[rule] += run.model.byRule(rule);
             }
-            most = Math.max(most, run.judge.findings());
+            most = Math.max(most, run.model.findings());
         }
         for (int rule = 0; rule < 14; rule++) {
             Check.due(seen[rule] >= 100 ? 1 : 0, 1);
         }
-        Check.due(most >= 40 ? 1 : 0, 1);
+        Check.due(most >= 30 ? 1 : 0, 1);
         Check.end();
     }
 
@@ -197,29 +198,20 @@ final class AgainstModelTest {
         }
     }
 
-    private void compareAll() {
+    /** Every finding as far as the calls go, then questions until none is left. */
+    private void lastQuestions() {
         int number = model.findings();
         Check.due(judge.findings(), number);
-        for (int index = -1; index <= number; index++) {
-            for (int what = -1; what < 6; what++) {
+        int asked = Math.min(number, judge.callsLeft() / 8);
+        for (int i = 0; i < asked; i++) {
+            int index = asked == number ? i : below(number);
+            for (int what = 0; what < 3; what++) {
                 Check.due(judge.finding(index, what), model.finding(index, what));
             }
         }
-        for (int baseline = 0; baseline < 2; baseline++) {
-            for (int type = 0; type < 12; type++) {
-                Check.due(judge.supertypes(baseline, type), model.supertypes(baseline, type));
-                for (int key = 0; key < keys; key++) {
-                    for (int kind = 0; kind < 3; kind++) {
-                        Check.due(judge.look(baseline, type, kind, key),
-                                model.look(baseline, type, kind, key));
-                    }
-                }
-            }
+        Check.refused(judge.finding(number, 0));
+        while (judge.callsLeft() > 0) {
+            anyQuestion(below(2), below(12));
         }
-        for (int rule = -1; rule < 15; rule++) {
-            Check.due(judge.byRule(rule), model.byRule(rule));
-            Check.due(judge.count(rule), model.count(rule));
-        }
-        Check.due(judge.verdict(), model.verdict());
     }
 }

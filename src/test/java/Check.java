@@ -8,6 +8,32 @@ final class Check {
     private Check() {
     }
 
+    /** Calls that bring an object into a state, or ask it. */
+    interface Calls {
+        void on(Judge x);
+    }
+
+    /** One call, whose answer counts. */
+    interface Call {
+        int on(Judge x);
+    }
+
+    /** One call in which one number is left open. */
+    interface NumberCall {
+        int on(Judge x, int number);
+    }
+
+    /** A sentence of the document, or a case of one, with the test of its own. */
+    static void sentence(String words, Runnable test) {
+        int askedBefore = asked;
+        int wrongBefore = wrong;
+        test.run();
+        if (asked == askedBefore) {
+            tell("nothing is asked for: " + words);
+        }
+        System.out.println((wrong == wrongBefore ? "  holds:  " : "  BROKEN: ") + words);
+    }
+
     static void due(long got, long want) {
         asked++;
         if (got != want) {
@@ -15,50 +41,76 @@ final class Check {
         }
     }
 
+    static void refused(int got) {
+        due(got, REFUSED);
+    }
+
+    /** The call is refused, and everything answers as if it had not been made. */
+    static void refused(Calls before, Call call) {
+        for (Calls after : Questions.PARTS) {
+            Judge with = new Judge();
+            before.on(with);
+            due(call.on(with), REFUSED);
+            with.takeAnswers();
+            after.on(with);
+            Judge without = new Judge();
+            before.on(without);
+            without.takeAnswers();
+            after.on(without);
+            same(with.takeAnswers(), without.takeAnswers());
+        }
+        refusedBetweenQuestions(before, call);
+    }
+
+    /** One object, as what it keeps ready for the next question must stay right too. */
+    private static void refusedBetweenQuestions(Calls before, Call call) {
+        Judge x = new Judge();
+        before.on(x);
+        x.takeAnswers();
+        Questions.view(x);
+        String first = x.takeAnswers();
+        due(call.on(x), REFUSED);
+        x.takeAnswers();
+        Questions.view(x);
+        same(x.takeAnswers(), first);
+    }
+
+    /** The numbers low and high are taken; the next ones and the farthest are refused. */
+    static void range(int low, int high, Calls before, NumberCall call) {
+        for (int number : new int[] {low, high}) {
+            Judge x = new Judge();
+            before.on(x);
+            asked++;
+            if (call.on(x, number) == REFUSED) {
+                tell("refused for " + number + ", which is in the range");
+            }
+        }
+        refusedOutside(low, high, before, call);
+    }
+
+    static void refusedOutside(int low, int high, Calls before, NumberCall call) {
+        int[] outside = {low - 1, high + 1, Integer.MIN_VALUE, Integer.MAX_VALUE};
+        for (int number : outside) {
+            refused(before, x -> call.on(x, number));
+        }
+    }
+
+    static void nothing(Judge x) {
+    }
+
     /** Compares all findings, each told as "rule type detail". */
-    static void dueFindings(CompatibilityJudge x, String... want) {
+    static void findings(Judge x, String... want) {
         due(x.findings(), want.length);
         for (int i = 0; i < want.length; i++) {
-            asked++;
-            String got = x.finding(i, 0) + " " + x.finding(i, 1) + " " + x.finding(i, 2);
-            if (!got.equals(want[i])) {
-                tell("finding " + i + " is " + got + ", due is " + want[i]);
-            }
+            same(x.finding(i, 0) + " " + x.finding(i, 1) + " " + x.finding(i, 2), want[i]);
         }
         due(x.finding(want.length, 0), REFUSED);
     }
 
-    /** Everything that can be asked of the object, so that two states can be compared. */
-    static String state(CompatibilityJudge x) {
-        StringBuilder text = new StringBuilder();
-        for (int what = 0; what < 5; what++) {
-            text.append(x.count(what)).append(' ');
-        }
-        for (int baseline = 0; baseline < 2; baseline++) {
-            for (int type = 0; type < 12; type++) {
-                text.append(x.supertypes(baseline, type)).append(' ');
-                for (int key = 0; key < 8; key++) {
-                    for (int kind = 0; kind < 3; kind++) {
-                        text.append(x.look(baseline, type, kind, key)).append(' ');
-                    }
-                }
-            }
-        }
-        for (int i = 0; i < x.findings(); i++) {
-            for (int what = 0; what < 5; what++) {
-                text.append(x.finding(i, what)).append(' ');
-            }
-        }
-        for (int rule = 0; rule < 14; rule++) {
-            text.append(x.byRule(rule)).append(' ');
-        }
-        return text.append(x.verdict()).toString();
-    }
-
-    static void dueSame(String got, String want) {
+    static void same(String got, String want) {
         asked++;
         if (!got.equals(want)) {
-            tell("state is " + got + "\n due is " + want);
+            tell("answered " + got + "\n    due is " + want);
         }
     }
 
@@ -66,7 +118,8 @@ final class Check {
         wrong++;
         String line = "";
         for (StackTraceElement element : new Throwable().getStackTrace()) {
-            if (!element.getClassName().equals("Check")) {
+            String name = element.getClassName();
+            if (!name.equals("Check") && !name.equals("Judge") && !name.equals("Questions")) {
                 line = element.getFileName() + ":" + element.getLineNumber();
                 break;
             }

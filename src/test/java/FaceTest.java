@@ -28,7 +28,7 @@ final class FaceTest {
             Check.due(Modifier.isPublic(inside.getModifiers()) ? 1 : 0, 0);
             Check.due(inside.getDeclaredFields().length <= 20 ? 1 : 0, 1);
         }
-        Check.due(face.getDeclaredClasses().length <= 11 ? 1 : 0, 1);
+        Check.due(face.getDeclaredClasses().length <= 12 ? 1 : 0, 1);
         Check.end();
     }
 
@@ -47,9 +47,9 @@ final class FaceTest {
             publicOnes.add(method.getReturnType() + " " + method.getName() + "("
                     + parameters.substring(1, parameters.length() - 1) + ")");
         }
-        Check.dueSame(publicOnes.toString(), new TreeSet<>(Arrays.asList(METHODS)).toString());
+        Check.same(publicOnes.toString(), new TreeSet<>(Arrays.asList(METHODS)).toString());
         privateNames.retainAll(publicNames);
-        Check.dueSame(privateNames.toString(), "[]");
+        Check.same(privateNames.toString(), "[]");
     }
 
     private static void constructorsOf(Class<?> face) {

@@ -1,196 +1,108 @@
-/** Promise 12: look, and LOOKING UP of the terms. */
+/** Promise 12: look; the way of looking up has a test of its own. */
 final class P12LookTest {
+    private static final int[] HIGHEST = {63, 511, 7};
+
     public static void main(String[] args) {
-        fieldsThroughInterfacesFirst();
-        fieldsDepthFirst();
-        methodsThroughClassesFirst();
-        methodsOfInterfaces();
-        methodsFromAnInterface();
-        numbersThatDoNotCount();
-        constructorsAreTheOwnOnes();
-        upThroughAllTypes();
-        refuses();
+        Check.sentence("The number of the type in which looking up finds the member",
+                P12LookTest::tellsTheType);
+        Check.sentence("12 if there is none", P12LookTest::none);
+        Check.sentence("12 if the type is not defined", P12LookTest::notDefined);
+        Check.sentence("in the baseline", P12LookTest::baselines);
+        Check.sentence("REFUSED for numbers out of range: baseline",
+                () -> Check.range(0, 1, Rich::build, (x, n) -> x.look(n, 3, 0, 1)));
+        Check.sentence("REFUSED for numbers out of range: type", P12LookTest::types);
+        Check.sentence("of the kind (0 .. 2)", P12LookTest::kinds);
+        Check.sentence("(a key out of the kind's range too)", P12LookTest::keys);
         Check.end();
     }
 
-    private static void fieldsThroughInterfacesFirst() {
-        CompatibilityJudge x = new CompatibilityJudge();
-        x.type(0, 0, 1, 0, -1);
-        x.type(0, 1, 0, 0, -1);
-        x.type(0, 2, 0, 0, 1);
-        x.implement(0, 2, 0);
-        x.member(0, 0, 0, 3, 15);
-        x.member(0, 1, 0, 3, 3);
-        x.member(0, 1, 0, 4, 0);
-        Check.due(x.look(0, 2, 0, 3), 0);
-        Check.due(x.look(0, 2, 0, 4), 1);
-        Check.due(x.look(0, 2, 0, 5), 12);
-        Check.due(x.look(0, 2, 1, 3), 12);
-        x.member(0, 2, 0, 3, 0);
-        Check.due(x.look(0, 2, 0, 3), 2);
-    }
-
-    private static void fieldsDepthFirst() {
-        CompatibilityJudge x = new CompatibilityJudge();
-        x.type(0, 0, 1, 0, -1);
-        x.type(0, 1, 1, 0, -1);
-        x.type(0, 2, 1, 0, -1);
-        x.type(0, 3, 1, 0, -1);
-        x.type(0, 4, 0, 0, -1);
-        x.type(0, 5, 0, 0, 4);
-        x.implement(0, 3, 1);
-        x.implement(0, 5, 3);
-        x.implement(0, 5, 2);
-        x.implement(0, 4, 0);
-        x.member(0, 1, 0, 6, 15);
-        x.member(0, 2, 0, 6, 15);
-        x.member(0, 0, 0, 7, 15);
-        x.member(0, 0, 0, 6, 15);
-        Check.due(x.look(0, 5, 0, 6), 1);
-        Check.due(x.look(0, 5, 0, 7), 0);
-        Check.due(x.look(0, 4, 0, 6), 0);
-        x.drop(0, 1, 0);
-        Check.due(x.look(0, 5, 0, 6), 2);
-        x.drop(0, 2, 0);
-        Check.due(x.look(0, 5, 0, 6), 0);
-    }
-
-    private static void methodsThroughClassesFirst() {
-        CompatibilityJudge x = new CompatibilityJudge();
-        x.type(0, 0, 1, 0, -1);
-        x.type(0, 1, 0, 0, -1);
-        x.type(0, 2, 0, 0, 1);
-        x.type(0, 3, 0, 0, 2);
-        x.implement(0, 3, 0);
-        x.member(0, 0, 1, 9, 3);
-        Check.due(x.look(0, 3, 1, 9), 0);
-        x.member(0, 1, 1, 9, 4);
-        Check.due(x.look(0, 3, 1, 9), 1);
-        x.member(0, 2, 1, 9, 19);
-        Check.due(x.look(0, 3, 1, 9), 2);
-        x.member(0, 3, 1, 9, 0);
-        Check.due(x.look(0, 3, 1, 9), 3);
-        Check.due(x.look(0, 3, 0, 9), 12);
-    }
-
-    private static void methodsOfInterfaces() {
-        CompatibilityJudge x = new CompatibilityJudge();
-        for (int type = 0; type < 6; type++) {
-            x.type(0, type, 1, 0, -1);
-        }
-        x.type(0, 8, 0, 0, -1);
-        x.type(0, 9, 0, 0, 8);
-        x.implement(0, 8, 5);
-        x.implement(0, 5, 0);
-        x.implement(0, 5, 1);
-        x.implement(0, 9, 4);
-        x.implement(0, 9, 3);
-        x.implement(0, 9, 2);
-        x.member(0, 0, 1, 9, 7);
-        x.member(0, 1, 1, 9, 0);
-        Check.due(x.look(0, 9, 1, 9), 12);
-        x.member(0, 5, 1, 9, 19);
-        Check.due(x.look(0, 9, 1, 9), 5);
-        x.member(0, 3, 1, 9, 19);
-        Check.due(x.look(0, 9, 1, 9), 3);
-        x.member(0, 4, 1, 9, 3);
-        Check.due(x.look(0, 9, 1, 9), 4);
-        x.member(0, 2, 1, 9, 3);
-        Check.due(x.look(0, 9, 1, 9), 2);
-        Check.due(x.look(0, 8, 1, 9), 5);
-        Check.due(x.look(0, 0, 1, 9), 0);
-        Check.due(x.look(0, 1, 1, 9), 1);
-    }
-
-    private static void methodsFromAnInterface() {
-        CompatibilityJudge x = new CompatibilityJudge();
-        for (int type = 0; type < 4; type++) {
-            x.type(1, type, 1, 0, -1);
-        }
-        x.implement(1, 1, 0);
-        x.implement(1, 3, 2);
-        x.implement(1, 3, 1);
-        x.member(1, 0, 1, 511, 3);
-        x.member(1, 1, 1, 511, 19);
-        x.member(1, 2, 1, 511, 3);
-        Check.due(x.look(1, 3, 1, 511), 0);
-        x.drop(1, 0, 0);
-        Check.due(x.look(1, 3, 1, 511), 2);
-        x.drop(1, 2, 0);
-        Check.due(x.look(1, 3, 1, 511), 1);
-        x.member(1, 3, 1, 511, 4);
-        Check.due(x.look(1, 3, 1, 511), 3);
-    }
-
-    private static void numbersThatDoNotCount() {
-        CompatibilityJudge x = new CompatibilityJudge();
-        x.type(0, 1, 1, 0, -1);
-        x.member(0, 1, 1, 2, 3);
-        x.member(0, 1, 0, 2, 15);
-        x.type(0, 3, 0, 0, 1);
-        Check.due(x.look(0, 3, 1, 2), 12);
-        Check.due(x.look(0, 3, 0, 2), 12);
-        x.implement(0, 3, 1);
-        Check.due(x.look(0, 3, 1, 2), 1);
-        Check.due(x.look(0, 3, 0, 2), 1);
-        x.remove(0, 1);
-        Check.due(x.look(0, 3, 1, 2), 12);
-        x.type(0, 1, 0, 0, -1);
-        x.member(0, 1, 1, 2, 0);
-        x.member(0, 1, 0, 2, 0);
-        Check.due(x.look(0, 3, 1, 2), 1);
-        Check.due(x.look(0, 3, 0, 2), 1);
-        Check.due(x.look(0, 2, 1, 2), 12);
-        Check.due(x.look(1, 3, 1, 2), 12);
-    }
-
-    private static void constructorsAreTheOwnOnes() {
-        CompatibilityJudge x = new CompatibilityJudge();
-        x.type(0, 1, 0, 0, -1);
-        x.type(0, 2, 0, 0, 1);
-        x.member(0, 1, 2, 7, 3);
-        Check.due(x.look(0, 1, 2, 7), 1);
-        Check.due(x.look(0, 2, 2, 7), 12);
-        x.member(0, 2, 2, 7, 0);
-        Check.due(x.look(0, 2, 2, 7), 2);
-    }
-
-    private static void upThroughAllTypes() {
-        CompatibilityJudge x = new CompatibilityJudge();
+    private static void tellsTheType() {
         for (int type = 0; type < 12; type++) {
-            x.type(0, type, 0, 0, type - 1);
-            x.type(1, type, 1, 0, -1);
-            x.implement(1, type, type - 1);
-        }
-        x.member(0, 0, 0, 63, 0);
-        x.member(0, 0, 1, 511, 0);
-        x.member(1, 0, 0, 63, 15);
-        x.member(1, 0, 1, 511, 3);
-        for (int type = 0; type < 12; type++) {
-            Check.due(x.look(0, type, 0, 63), 0);
-            Check.due(x.look(0, type, 1, 511), 0);
-            Check.due(x.look(1, type, 0, 63), 0);
-            Check.due(x.look(1, type, 1, 511), 0);
-            Check.due(x.supertypes(0, type), (1 << type) - 1);
-            Check.due(x.supertypes(1, type), (1 << type) - 1);
+            for (int kind = 0; kind < 3; kind++) {
+                Judge x = new Judge();
+                x.type(0, type, 0, 1, -1);
+                x.member(0, type, kind, HIGHEST[kind], 0);
+                Check.due(x.look(0, type, kind, HIGHEST[kind]), type);
+                for (int sub = type + 1; sub < 12; sub++) {
+                    x.type(0, sub, 0, 1, type);
+                    Check.due(x.look(0, sub, kind, HIGHEST[kind]), kind == 2 ? 12 : type);
+                }
+            }
         }
     }
 
-    private static void refuses() {
-        CompatibilityJudge x = new CompatibilityJudge();
-        int[] limits = {64, 512, 8};
+    private static void none() {
+        Judge x = new Judge();
+        x.type(0, 3, 0, 1, -1);
+        x.type(0, 4, 0, 1, 3);
         for (int kind = 0; kind < 3; kind++) {
-            Check.due(x.look(0, 0, kind, limits[kind] - 1), 12);
-            Check.due(x.look(0, 0, kind, limits[kind]), Check.REFUSED);
-            Check.due(x.look(0, 0, kind, -1), Check.REFUSED);
-            Check.due(x.look(0, 0, kind, Integer.MAX_VALUE), Check.REFUSED);
-            Check.due(x.look(-1, 0, kind, 0), Check.REFUSED);
-            Check.due(x.look(2, 0, kind, 0), Check.REFUSED);
-            Check.due(x.look(0, -1, kind, 0), Check.REFUSED);
-            Check.due(x.look(0, 12, kind, 0), Check.REFUSED);
+            Check.due(x.look(0, 4, kind, 0), 12);
+            Check.due(x.look(0, 4, kind, HIGHEST[kind]), 12);
+            x.member(0, 4, kind, 5, 3);
+            Check.due(x.look(0, 4, kind, 5), 4);
+            Check.due(x.look(0, 3, kind, 5), 12);
+            Check.due(x.look(0, 4, kind, 4), 12);
+            Check.due(x.look(0, 4, kind, 6), 12);
         }
-        Check.due(x.look(0, 0, -1, 0), Check.REFUSED);
-        Check.due(x.look(0, 0, 3, 0), Check.REFUSED);
-        Check.due(x.look(0, 0, Integer.MIN_VALUE, 0), Check.REFUSED);
+        for (int kind = 0; kind < 3; kind++) {
+            x.drop(0, 4, 0);
+            Check.due(x.look(0, 4, kind, 5), 12);
+        }
+    }
+
+    private static void notDefined() {
+        Judge x = new Judge();
+        for (int type = 0; type < 12; type++) {
+            for (int kind = 0; kind < 3; kind++) {
+                Check.due(x.look(0, type, kind, HIGHEST[kind]), 12);
+                Check.due(x.look(1, type, kind, 0), 12);
+            }
+        }
+        x.type(0, 3, 0, 1, -1);
+        x.type(0, 4, 0, 1, 3);
+        x.member(0, 3, 1, 5, 3);
+        x.member(0, 4, 0, 5, 3);
+        x.member(0, 4, 2, 5, 3);
+        x.remove(0, 4);
+        for (int kind = 0; kind < 3; kind++) {
+            Check.due(x.look(0, 4, kind, 5), 12);
+        }
+        Check.due(x.look(0, 3, 1, 5), 3);
+    }
+
+    private static void baselines() {
+        Judge x = new Judge();
+        x.type(0, 3, 0, 1, -1);
+        x.type(0, 4, 0, 1, 3);
+        x.member(0, 3, 1, 5, 3);
+        x.type(1, 4, 0, 1, -1);
+        Check.due(x.look(0, 4, 1, 5), 3);
+        Check.due(x.look(1, 4, 1, 5), 12);
+        x.member(1, 4, 1, 5, 3);
+        Check.due(x.look(0, 4, 1, 5), 3);
+        Check.due(x.look(1, 4, 1, 5), 4);
+    }
+
+    private static void types() {
+        for (int each = 0; each < 3; each++) {
+            int kind = each;
+            Check.range(0, 11, Rich::build, (x, n) -> x.look(0, n, kind, 1));
+            Check.range(0, 11, Check::nothing, (x, n) -> x.look(1, n, kind, 1));
+        }
+    }
+
+    private static void kinds() {
+        Check.range(0, 2, Rich::build, (x, n) -> x.look(0, 3, n, 1));
+        Check.range(0, 2, Check::nothing, (x, n) -> x.look(1, 3, n, 0));
+    }
+
+    private static void keys() {
+        for (int each = 0; each < 3; each++) {
+            int kind = each;
+            Check.range(0, HIGHEST[kind], Rich::build, (x, n) -> x.look(0, 3, kind, n));
+            Check.range(0, HIGHEST[kind], Check::nothing, (x, n) -> x.look(1, 3, kind, n));
+        }
+        Check.refused(Rich::build, x -> x.look(0, 3, 0, 511));
+        Check.refused(Rich::build, x -> x.look(0, 3, 2, 63));
     }
 }
